@@ -460,7 +460,6 @@ public final class CostumeStock {
             put(allowance, costume, allowed);
             put(code, costume, washCode);
             put(color, costume, shade);
-            // An undone costume may have left its dirt and alterations in the row.
             put(dirt, costume, 0);
             put(alterations, costume, 0);
             size++;
