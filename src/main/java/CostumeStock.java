@@ -921,7 +921,7 @@ public final class CostumeStock {
 
         History() {
             states = new State[MAX_HISTORY];
-            for (int place = 0; place < MAX_HISTORY; place++) {
+            for (int place = 0; place < states.length; place++) {
                 states[place] = new State();
             }
         }

@@ -204,5 +204,19 @@ public final class CostumesAndActorsTest {
         Due.is("undo()", x.undo(), 4);
         Due.is("chest after undo", x.costume(0, 0), 103);
         Due.is("alterations after undo", x.costume(0, 10), 1);
+        promise7Undone(x);
+    }
+
+    /** An alteration that was unpicked, and whose place another one took, comes back by undo. */
+    private static void promise7Undone(CostumeStock x) {
+        Due.is("unpick(0)", x.unpick(0), 11);
+        Due.is("alter(0, 1, -6)", x.alter(0, 1, -6), 40);
+        Due.is("undo() of alter", x.undo(), 4);
+        Due.is("no alteration", x.alteration(0, 0, 0), Stocks.NONE);
+        Due.is("undo() of unpick", x.undo(), 3);
+        Due.is("its measure", x.alteration(0, 0, 0), 0);
+        Due.is("its change", x.alteration(0, 0, 1), 3);
+        Due.is("chest", x.costume(0, 0), 103);
+        Due.is("waist", x.costume(0, 1), 80);
     }
 }

@@ -113,6 +113,8 @@ public final class FittingTest {
 
     private static void promise26Scenes() {
         CostumeStock x = Stocks.of(2, 2);
+        Due.is("in the first scene, when nothing is worn", x.costumeFor(0, 0), 0);
+        Due.is("in the last scene, when nothing is worn", x.costumeFor(11, 0), 0);
         x.wear(5, 1, 0);
         Due.is("two scenes before", x.costumeFor(3, 0), 0);
         Due.is("in the scene before", x.costumeFor(4, 0), 1);

@@ -216,6 +216,24 @@ public final class LookingTest {
         x.alter(1, 1, -2);
         Due.is("another one", x.alteration(1, 1, 0), 1);
         Due.is("another one", x.alteration(1, 1, 1), -2);
+        promise20All();
+    }
+
+    /** Every alteration of every costume has a place of its own. */
+    private static void promise20All() {
+        CostumeStock x = Stocks.of(16, 0);
+        for (int index = 0; index < 6; index++) {
+            for (int costume = 0; costume < 16; costume++) {
+                Due.holds("alter succeeds", x.alter(costume, (costume + index) % 3, index % 2 * 4 - 3) > 0);
+            }
+        }
+        for (int costume = 0; costume < 16; costume++) {
+            for (int index = 0; index < 6; index++) {
+                Due.is("measure", x.alteration(costume, index, 0), (costume + index) % 3);
+                Due.is("change", x.alteration(costume, index, 1), index % 2 * 4 - 3);
+            }
+            Due.is("there is no seventh", x.alteration(costume, 6, 0), Stocks.NONE);
+        }
     }
 
     private static void promise21() {

@@ -112,6 +112,13 @@ public final class ScenesTest {
 
     private static void promise23HandedOver() {
         CostumeStock x = Stocks.of(2, 3);
+        x.wear(0, 0, 1);
+        x.wear(1, 1, 1);
+        Due.is("handed over in the first two scenes", x.problems(1), 1);
+        x.wear(1, 1, -1);
+        x.wear(11, 0, 0);
+        Due.is("there is no scene behind the last one", x.problems(1), 0);
+        x.wear(11, 0, -1);
         x.wear(4, 0, 0);
         x.wear(5, 1, 0);
         Due.is("handed over", x.problems(1), 1);

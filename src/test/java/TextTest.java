@@ -104,6 +104,8 @@ public final class TextTest {
         error(x, "hat", 0);
         error(x, "  costumes 100", 2);
         error(x, "cost", 0);
+        error(x, "kostume 100 100 100 0 0;", 0);
+        error(x, "actoz 100 100 100;", 0);
         error(x, "Costume", 0);
         error(x, ";", 0);
         error(x, "100", 0);
