@@ -3,7 +3,6 @@ public final class LookingTest {
     public static void main(String[] args) {
         promise17();
         promise17Oldest();
-        promise17All();
         promise18();
         promise18QuickChanges();
         promise19();
@@ -48,75 +47,6 @@ public final class LookingTest {
         Due.is("undo()", x.undo(), 0);
         Due.is("today", x.count(3), 3);
         Due.is("undo() of nothing", x.undo(), Stocks.STATE);
-    }
-
-    /** Each action is recorded, and what it changes comes back. */
-    private static void promise17All() {
-        CostumeStock x = Stocks.of(2, 2);
-        x.alter(0, 0, 1);
-        x.hire(1, 0, 5, 10);
-        String[] names = {"addCostume", "setColor", "addActor", "set", "alter", "unpick", "load", "wear", "perform",
-            "pass", "hire", "endHire", "wash"};
-        for (int action = 0; action < names.length; action++) {
-            int[] before = everything(x);
-            Due.holds(names[action] + " succeeds", act(x, action) >= -1);
-            Due.is("states after " + names[action], x.count(10), 5);
-            Due.is("undo() of " + names[action], x.undo(), 4);
-            int[] after = everything(x);
-            Due.is("rows of numbers", after.length, before.length);
-            for (int place = 0; place < before.length; place++) {
-                Due.is(names[action] + " undone, place " + place, after[place], before[place]);
-            }
-            x.pass(1);
-            x.undo();
-            x.setColor(0, 0);
-        }
-    }
-
-    private static int act(CostumeStock x, int action) {
-        switch (action) {
-            case 0: return x.addCostume(150, 150, 150, 0, 3);
-            case 1: return x.setColor(1, 1);
-            case 2: return x.addActor(150, 150, 150);
-            case 3: return x.set(3, 1);
-            case 4: return x.alter(0, 2, -4);
-            case 5: return x.unpick(0);
-            case 6: return x.load();
-            case 7: return x.wear(11, 1, 1);
-            case 8: return x.perform();
-            case 9: return x.pass(60);
-            case 10: return x.hire(0, 77, 7, 7);
-            case 11: return x.endHire(0);
-            default: return x.wash(2, 1);
-        }
-    }
-
-    /** All that can be looked at, but for the number of states in the history. */
-    private static int[] everything(CostumeStock x) {
-        int[] all = new int[16 + 16 * 13 + 16 * 12 + 8 * 15 + 24 * 4];
-        int place = 0;
-        for (int what = 0; what < 16; what++) {
-            all[place++] = what == 10 ? 0 : x.count(what);
-        }
-        for (int costume = 0; costume < 16; costume++) {
-            for (int what = 0; what < 13; what++) {
-                all[place++] = x.costume(costume, what);
-            }
-            for (int index = 0; index < 12; index++) {
-                all[place++] = x.alteration(costume, index / 2, index % 2);
-            }
-        }
-        for (int actor = 0; actor < 8; actor++) {
-            for (int what = 0; what < 15; what++) {
-                all[place++] = x.actor(actor, what);
-            }
-        }
-        for (int hire = 0; hire < 24; hire++) {
-            for (int what = 0; what < 4; what++) {
-                all[place++] = x.hired(hire, what);
-            }
-        }
-        return all;
     }
 
     private static void promise18() {

@@ -1,8 +1,12 @@
 /** Long runs of calls, the same ones each time, of which every answer is compared with that of PlainStock. */
 public final class ModelTest {
-    private static final int RUNS = 600;
+    private static final int RUNS = 2500;
+    /** What an object answers to later calls is free. */
     private static final int CALLS = 512;
+    /** As many calls as one play makes at most. */
+    private static final int LONGEST = 120;
     private static final int KINDS = 27;
+    private static final int LOOKING = 17;
     private static final int WILD = 40;
     private static final String[] PIECES = {"costume", "actor", "dark", ";", " ", "100", "95", "105", "0", "4", "8",
         "3", "39", "00", "x", "costume 100 80 120 8 1;", "costume 98 84 118 2 0 dark;", "actor 98 78 117;"};
@@ -12,6 +16,7 @@ public final class ModelTest {
     private PlainStock y;
     private final int[] answers = new int[KINDS];
     private int run;
+    private int calls;
     private int focus;
 
     public static void main(String[] args) {
@@ -61,6 +66,7 @@ public final class ModelTest {
 
     private void playRun(int number) {
         run = number;
+        calls = 0;
         seed = 7919L * number + 17;
         x = new CostumeStock();
         y = new PlainStock();
@@ -71,16 +77,41 @@ public final class ModelTest {
                 compare(3, x.set(measure, 14), y.set(measure, 14));
             }
         }
-        for (int call = 0; call < CALLS; call++) {
-            int kind = below(KINDS + 12);
-            if (number % 4 == 0 && call > 150 && kind >= KINDS) {
-                kind = KINDS - 1;
+        playStart(number % 5);
+        while (calls <= CALLS - LONGEST) {
+            play(below(KINDS + 12));
+        }
+        Due.holds("a play makes no more than " + LONGEST + " calls", calls <= CALLS);
+        while (calls < CALLS) {
+            playLooking(LOOKING + below(KINDS - LOOKING));
+        }
+    }
+
+    /** Some runs begin with a stock that is nearly full of something. */
+    private void playStart(int what) {
+        int times = new int[] {0, 5, 14, 21, 110}[what];
+        for (int time = 0; time < times; time++) {
+            int first = 2 * time;
+            switch (what) {
+                case 1:
+                    compare(9, x.pass(59), y.pass(59));
+                    break;
+                case 2:
+                    compare(0, x.addCostume(100, 80, 120, 8, 1), y.addCostume(100, 80, 120, 8, 1));
+                    compare(2, x.addActor(98, 78, 118), y.addActor(98, 78, 118));
+                    break;
+                case 3:
+                    compare(0, x.addCostume(100, 80, 120, 8, 1), y.addCostume(100, 80, 120, 8, 1));
+                    compare(12, x.hire(0, first, 1, 7), y.hire(0, first, 1, 7));
+                    break;
+                default:
+                    compare(6, x.append(' '), y.append(' '));
             }
-            play(kind);
         }
     }
 
     private void compare(int kind, int got, int want) {
+        calls++;
         Due.is("run " + run + ", a call of the kind " + kind, got, want);
         if (want >= -1) {
             answers[kind]++;
@@ -92,7 +123,7 @@ public final class ModelTest {
             playMaking(kind);
         } else if (kind < 12) {
             playScenesAndText(kind);
-        } else if (kind < 17) {
+        } else if (kind < LOOKING) {
             playHiresAndWashing(kind);
         } else if (kind < KINDS) {
             playLooking(kind);
@@ -181,9 +212,8 @@ public final class ModelTest {
             }
             default:
                 compare(11, x.perform(), y.perform());
-                for (int problem = 0; problem < 5; problem++) {
-                    compare(11, x.problems(problem), y.problems(problem));
-                }
+                int problem = argument(0, 4);
+                compare(11, x.problems(problem), y.problems(problem));
         }
     }
 
@@ -231,16 +261,14 @@ public final class ModelTest {
         int index = argument(0, 6);
         int what = argument(0, 15);
         switch (kind) {
-            case 17:
-                for (int number = -1; number <= 16; number++) {
-                    compare(17, x.count(number), y.count(number));
-                }
+            case LOOKING:
+                compare(17, x.count(what), y.count(what));
                 break;
-            case 18:
-                for (int part = -1; part <= 13; part++) {
-                    compare(18, x.costume(c, part), y.costume(c, part));
-                }
+            case 18: {
+                int part = argument(0, 12);
+                compare(18, x.costume(c, part), y.costume(c, part));
                 break;
+            }
             case 19: {
                 int part = argument(0, 1);
                 compare(19, x.alteration(c, index, part), y.alteration(c, index, part));
