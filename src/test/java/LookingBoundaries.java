@@ -597,11 +597,12 @@ final class LookingBoundaries {
 
     @Sentence(of = "Promise 19", says = "12 the number of its hires")
     static void promise19Hires(Case c) {
-        c.costumes(2);
+        c.costumes(3);
         c.looks(0, x -> x.costume(1, 12));
         c.hireDays(1, 0, 23);
         c.looks(24, x -> x.costume(1, 12));
         c.looks(0, x -> x.costume(0, 12));
+        c.looks(0, x -> x.costume(2, 12));
         c.day(60);
         c.looks(24, x -> x.costume(1, 12));
     }

@@ -195,6 +195,8 @@ final class WashingBoundaries {
     @Sentence(of = "Promise 16", says = "- `load`: a set of costumes (bit k for costume k)")
     static void promise16LoadIsASetOfCostumes(Case c) {
         c.invalid(x -> x.wash(0, 1));
+        c.invalid(x -> x.wash(0, Integer.MIN_VALUE));
+        c.invalid(x -> x.wash(0, -1));
         c.actors(1);
         c.costumes(16);
         c.soil(0, 1);
