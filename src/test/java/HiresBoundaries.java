@@ -338,10 +338,10 @@ final class HiresBoundaries {
     static void promise14CapacityOf24Hires(Case c) {
         c.costumes(2);
         c.hireDays(0, 0, 22);
-        c.is(3, x -> x.hire(0, 23, 3, 1));
+        c.is(15, x -> x.hire(0, 23, 3, 5));
         c.full(x -> x.hire(0, 26, 1, 1));
         c.day(23);
-        c.is(1, x -> x.endHire(23));
+        c.is((15 - 5) / 2, x -> x.endHire(23));
         c.full(x -> x.hire(0, 26, 1, 1));
         c.succeeds(x -> x.undo());
         c.succeeds(x -> x.undo());

@@ -560,6 +560,14 @@ final class LookingBoundaries {
         c.soil(1, 12);
         c.all(6, 10, what -> new int[] {8, 3, 1, 9}[what - 6], what -> x -> x.costume(1, what));
         c.all(6, 10, what -> 0, what -> x -> x.costume(0, what));
+        Case last = c.another();
+        last.actors(1);
+        last.costumes(15);
+        last.is(15, x -> x.addCostume(100, 80, 120, 7, 2));
+        last.is(0, x -> x.setColor(15, 1));
+        last.soil(15, 5);
+        last.all(6, 10, what -> new int[] {7, 2, 1, 5}[what - 6], what -> x -> x.costume(15, what));
+        last.all(6, 10, what -> what == 6 ? 8 : 0, what -> x -> x.costume(14, what));
     }
 
     @Sentence(of = "Promise 19", says = "10 the number of its alterations")

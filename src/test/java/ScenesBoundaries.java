@@ -485,6 +485,17 @@ final class ScenesBoundaries {
         c.none(x -> x.costumeFor(0, 0));
         c.is(4, x -> x.wash(0, 1));
         c.is(0, x -> x.costumeFor(0, 0));
+        Case second = c.another();
+        second.actors(2);
+        second.costumes(3);
+        second.soil(1, 5);
+        second.is(0, x -> x.costumeFor(1, 1));
+        second.is(1, x -> x.hire(0, 1, 1, 1));
+        second.is(2, x -> x.costumeFor(0, 0));
+        second.is(2, x -> x.costumeFor(1, 1));
+        second.is(1, x -> x.hire(2, 1, 1, 1));
+        second.none(x -> x.costumeFor(0, 0));
+        second.none(x -> x.costumeFor(1, 1));
     }
 
     @Sentence(of = "Promise 26", says = "the one with the smallest least alteration for this actor (those without "

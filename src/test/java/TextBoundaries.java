@@ -309,6 +309,10 @@ final class TextBoundaries {
         for (String text : beginnings) {
             c.another().error(text.length(), text);
             c.another().error(text.length() + 2, text + "  ");
+            // What stood there in a longer text before it does not count.
+            Case second = c.another();
+            second.type(text + ";");
+            second.error(text.length(), text);
         }
         c.error(120, "costume" + " ".repeat(113));
         c.error(119, "costume" + " ".repeat(112));
