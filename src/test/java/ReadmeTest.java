@@ -84,8 +84,9 @@ public final class ReadmeTest {
 
     private static void checkTests(String page) throws IOException {
         try (Stream<Path> files = Files.list(TESTS)) {
-            Set<String> there = files.map(file -> file.getFileName().toString()).filter(name -> name.endsWith("Test.java"))
-                    .map(name -> name.replace(".java", "")).collect(Collectors.toCollection(TreeSet::new));
+            Set<String> there = files.map(file -> file.getFileName().toString())
+                    .filter(name -> name.endsWith("Test.java")).map(name -> name.replace(".java", ""))
+                    .collect(Collectors.toCollection(TreeSet::new));
             Set<String> shown = Pattern.compile("(?m)^\\| (\\w+Test) \\|").matcher(page).results()
                     .map(row -> row.group(1)).collect(Collectors.toCollection(TreeSet::new));
             Due.holds("the tests on the page, " + shown + ", are those that there are, " + there, shown.equals(there));
